@@ -86,7 +86,7 @@ public final class ChangeTest {
         x.spoil(4, 0, 64, 2);
         x.spoil(5, 0, 64, 3);
         x.lose(2);
-        long[] before = Due.words(x);
+        long[] before = Rows.words(x);
         int[][] wrong = {
             {4, 0, 1}, {5, 0, 1}, {6, 0, 1}, {-1, 0, 1}, {MIN, 0, 1}, {MAX, 0, 1}, {32, 0, 1}, {2, 0, 1},
             {0, -1, 1}, {0, 64, 1}, {0, 63, 2}, {0, 57, 8}, {0, MIN, 8}, {0, MAX, 8}, {0, MAX, 1}, {0, -1, 2},
@@ -96,7 +96,7 @@ public final class ChangeTest {
         for (int[] w : wrong) {
             due.is("put(" + w[0] + ", " + w[1] + ", " + w[2] + ", ..)", x.put(w[0], w[1], w[2], 77), TwinParity.BAD);
         }
-        due.same("put BAD", Due.words(x), before);
+        due.same("put BAD", Rows.words(x), before);
         due.is("put(0, 63, 1, 1)", x.put(0, 63, 1, 1), 1);
     }
 
@@ -124,9 +124,9 @@ public final class ChangeTest {
         for (int unit = 0; unit < 6; unit++) {
             TwinParity x = new TwinParity();
             x.put(1, 0, 8, 123456789L);
-            long[] before = Due.words(x);
+            long[] before = Rows.words(x);
             due.is("spoil(" + unit + ", 8, 8, 3)", x.spoil(unit, 8, 8, 3), 8);
-            long[] after = Due.words(x);
+            long[] after = Rows.words(x);
             due.is("it changed", after[unit * 8 + 1] == 0 ? 1 : 0, 0);
             after[unit * 8 + 1] = before[unit * 8 + 1];
             due.same("spoil of " + unit, after, before);
@@ -141,7 +141,7 @@ public final class ChangeTest {
         x.spoil(0, 0, 64, 1);
         x.lose(3);
         x.lose(5);
-        long[] before = Due.words(x);
+        long[] before = Rows.words(x);
         int[][] wrong = {
             {6, 0, 1}, {-1, 0, 1}, {MIN, 0, 1}, {MAX, 0, 1}, {32, 0, 1}, {3, 0, 1}, {5, 0, 1},
             {0, -1, 1}, {0, 64, 1}, {0, 63, 2}, {0, 1, 64}, {0, MAX, 64}, {0, MIN, 64}, {4, -1, 2},
@@ -150,7 +150,7 @@ public final class ChangeTest {
         for (int[] w : wrong) {
             due.is("spoil(" + w[0] + ", " + w[1] + ", " + w[2] + ", 4)", x.spoil(w[0], w[1], w[2], 4), TwinParity.BAD);
         }
-        due.same("spoil BAD", Due.words(x), before);
+        due.same("spoil BAD", Rows.words(x), before);
         due.is("spoil(4, 0, 64, 4)", x.spoil(4, 0, 64, 4), 64);
     }
 
@@ -176,9 +176,9 @@ public final class ChangeTest {
         }
         TwinParity x = new TwinParity();
         x.put(0, 0, 8, 987654321L);
-        long[] before = Due.words(x);
+        long[] before = Rows.words(x);
         due.is("make() of a row that fits", x.make(), 0);
-        due.same("make() of a row that fits", Due.words(x), before);
+        due.same("make() of a row that fits", Rows.words(x), before);
     }
 
     private static void makeBad() {
@@ -186,9 +186,9 @@ public final class ChangeTest {
             TwinParity x = new TwinParity();
             x.spoil(0, 0, 64, 1);
             x.lose(lost);
-            long[] before = Due.words(x);
+            long[] before = Rows.words(x);
             due.is("make() without " + lost, x.make(), TwinParity.BAD);
-            due.same("make() without " + lost, Due.words(x), before);
+            due.same("make() without " + lost, Rows.words(x), before);
             due.is("count(2)", x.count(2), lost);
         }
     }

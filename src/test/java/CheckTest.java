@@ -14,32 +14,22 @@ public final class CheckTest {
         due.finish();
     }
 
-    private static TwinParity filled(int k) {
-        TwinParity x = new TwinParity();
-        x.begin(k);
-        for (int unit = 0; unit < k; unit++) {
-            x.spoil(unit, 0, 64, 17 * k + unit);
-        }
-        x.make();
-        return x;
-    }
-
     private static void offByEachUnit() {
         for (int k = 2; k <= 14; k++) {
             for (int unit = 0; unit < k + 2; unit++) {
-                TwinParity x = filled(k);
+                TwinParity x = Rows.filled(k);
                 x.spoil(unit, 1, 62, 5);
-                long[] spoilt = Due.words(x);
+                long[] spoilt = Rows.words(x);
                 due.is("check() of " + unit + " in " + k, x.check(), unit);
-                due.same("check() of " + unit + " in " + k, Due.words(x), spoilt);
+                due.same("check() of " + unit + " in " + k, Rows.words(x), spoilt);
             }
             for (int unit = 0; unit < k + 2; unit++) {
-                TwinParity x = filled(k);
-                long[] before = Due.words(x);
+                TwinParity x = Rows.filled(k);
+                long[] before = Rows.words(x);
                 x.spoil(unit, 0, 64, 5);
                 due.is("fix() of " + unit + " in " + k, x.fix(), unit);
                 due.is("check() behind fix()", x.check(), TwinParity.FITS);
-                due.same("fix() of " + unit + " in " + k, Due.words(x), before);
+                due.same("fix() of " + unit + " in " + k, Rows.words(x), before);
             }
         }
     }
@@ -58,18 +48,18 @@ public final class CheckTest {
     }
 
     private static void fitsChangesNothing() {
-        TwinParity x = filled(5);
-        long[] before = Due.words(x);
+        TwinParity x = Rows.filled(5);
+        long[] before = Rows.words(x);
         due.is("check() that fits", x.check(), TwinParity.FITS);
         due.is("fix() that fits", x.fix(), TwinParity.FITS);
-        due.same("fix() that fits", Due.words(x), before);
+        due.same("fix() that fits", Rows.words(x), before);
     }
 
     private static void many(String call, TwinParity x) {
-        long[] before = Due.words(x);
+        long[] before = Rows.words(x);
         due.is("check() of " + call, x.check(), TwinParity.MANY);
         due.is("fix() of " + call, x.fix(), TwinParity.MANY);
-        due.same("fix() of " + call, Due.words(x), before);
+        due.same("fix() of " + call, Rows.words(x), before);
     }
 
     private static void manyByTwoUnits() {
@@ -109,13 +99,11 @@ public final class CheckTest {
     }
 
     private static void spoilTo(TwinParity x, int unit, int at, int value) {
-        for (int seed = 0; x.get(unit, at) != value && seed < 4096; seed++) {
-            // A plain search for a seed whose first byte is the value, without a call on x.
-            int first = (1103515245 * seed + 12345 >>> 16) & 255;
-            if (first == value) {
-                x.spoil(unit, at, 1, seed);
-            }
+        int seed = 0;
+        while ((1103515245 * seed + 12345 >>> 16 & 255) != value && seed < 4096) {
+            seed++;
         }
+        x.spoil(unit, at, 1, seed);
         due.is("spoilt to", x.get(unit, at), value);
     }
 
@@ -134,13 +122,13 @@ public final class CheckTest {
     private static void lostIsBad() {
         for (int lost = 0; lost < 6; lost++) {
             for (int spoilt = 0; spoilt < 6; spoilt++) {
-                TwinParity x = filled(4);
+                TwinParity x = Rows.filled(4);
                 x.spoil(spoilt, 0, 64, 8);
                 x.lose(lost);
-                long[] before = Due.words(x);
+                long[] before = Rows.words(x);
                 due.is("check() without " + lost, x.check(), TwinParity.BAD);
                 due.is("fix() without " + lost, x.fix(), TwinParity.BAD);
-                due.same("fix() without " + lost, Due.words(x), before);
+                due.same("fix() without " + lost, Rows.words(x), before);
                 due.is("count(2)", x.count(2), lost);
             }
         }

@@ -16,16 +16,6 @@ final class Due {
         }
     }
 
-    /** The words of the row, so that a call that must change nothing can be told from one that does. */
-    static long[] words(TwinParity x) {
-        int units = x.count(0);
-        long[] words = new long[units * 8];
-        for (int i = 0; i < words.length; i++) {
-            words[i] = x.word(i / 8, i % 8);
-        }
-        return words;
-    }
-
     void same(String call, long[] got, long[] want) {
         is(call + ", how many words", got.length, want.length);
         for (int i = 0; i < Math.min(got.length, want.length); i++) {

@@ -25,7 +25,7 @@ public final class RowTest {
         due.is(call + ", count(1)", x.count(1), 0);
         due.is(call + ", count(2)", x.count(2), TwinParity.BAD);
         due.is(call + ", check()", x.check(), TwinParity.FITS);
-        due.same(call, Due.words(x), new long[(k + 2) * 8]);
+        due.same(call, Rows.words(x), new long[(k + 2) * 8]);
     }
 
     private static void beginEachLength() {
@@ -45,13 +45,13 @@ public final class RowTest {
         x.spoil(0, 0, 64, 5);
         x.spoil(4, 0, 64, 6);
         x.lose(1);
-        long[] before = Due.words(x);
+        long[] before = Rows.words(x);
         for (int k : wrong) {
             due.is("begin(" + k + ")", x.begin(k), TwinParity.BAD);
         }
         due.is("begin BAD, count(0)", x.count(0), 5);
         due.is("begin BAD, count(2)", x.count(2), 1);
-        due.same("begin BAD", Due.words(x), before);
+        due.same("begin BAD", Rows.words(x), before);
     }
 
     private static void beginForgets() {
