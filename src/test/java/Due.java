@@ -1,3 +1,5 @@
+import java.util.Arrays;
+
 /** Counts the answers of one test that are not the ones that are due. */
 final class Due {
     private final String test;
@@ -8,18 +10,53 @@ final class Due {
         this.test = test;
     }
 
+    /** Tests one sentence of the document; a test that looks at no answer fails too. */
+    void sentence(String text, Runnable check) {
+        int lookedBefore = looked;
+        int wrongBefore = wrong;
+        try {
+            check.run();
+        } catch (RuntimeException e) {
+            fail(text + ": threw " + e);
+        }
+        if (looked == lookedBefore) {
+            fail(text + ": no answer was looked at");
+        }
+        if (wrong != wrongBefore) {
+            System.out.println(test + ": BROKEN: " + text);
+        }
+    }
+
     void is(String call, long got, long want) {
         looked++;
         if (got != want) {
-            wrong++;
-            System.out.println(test + ": " + call + " answered " + got + ", due is " + want);
+            fail(call + " answered " + got + ", due is " + want);
         }
     }
 
     void same(String call, long[] got, long[] want) {
-        is(call + ", how many words", got.length, want.length);
-        for (int i = 0; i < Math.min(got.length, want.length); i++) {
-            is(call + ", then word(" + i / 8 + ", " + i % 8 + ")", got[i], want[i]);
+        looked++;
+        if (!Arrays.equals(got, want)) {
+            fail(call + ", then the row was " + Arrays.toString(got) + ", due is " + Arrays.toString(want));
+        }
+    }
+
+    /** The answer, and that the row is as one that was made likewise and not called. */
+    void leaves(Rows.Kind kind, String call, Rows.Call asked, long answer) {
+        String told = kind.name() + ": " + call;
+        TwinParity x = kind.make().get();
+        TwinParity untouched = kind.make().get();
+        is(told, asked.on(x, kind.k()), answer);
+        same(told, Rows.state(x), Rows.state(untouched));
+        // Behind mend() even a change that the lost units hid would be seen.
+        is(told + ", then mend()", x.mend(), untouched.mend());
+        same(told + ", then mend()", Rows.state(x), Rows.state(untouched));
+    }
+
+    /** The same for every kind of row. */
+    void leavesAll(String call, Rows.Call asked, long answer) {
+        for (Rows.Kind kind : Rows.kinds()) {
+            leaves(kind, call, asked, answer);
         }
     }
 
@@ -28,5 +65,10 @@ final class Due {
         if (wrong != 0 || looked == 0) {
             System.exit(1);
         }
+    }
+
+    private void fail(String text) {
+        wrong++;
+        System.out.println(test + ": " + text);
     }
 }

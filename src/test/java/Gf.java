@@ -14,11 +14,24 @@ final class Gf {
         return product;
     }
 
-    static int power(int i) {
+    /** By squares, without knowing that the powers come again; for exponents beyond an int too. */
+    static int power(long i) {
         int power = 1;
-        for (int k = 0; k < i; k++) {
-            power = times(power, 2);
+        int square = 2;
+        for (long left = i; left > 0; left >>= 1) {
+            power = (left & 1) == 1 ? times(power, square) : power;
+            square = times(square, square);
         }
         return power;
+    }
+
+    /** The element whose product with a is 1, by search. */
+    static int inverse(int a) {
+        for (int b = 1; b < 256; b++) {
+            if (times(a, b) == 1) {
+                return b;
+            }
+        }
+        throw new IllegalStateException("no inverse of " + a);
     }
 }
