@@ -47,18 +47,23 @@ public final class Promise07WordTest {
     /** Read by get alone, which a row that was not asked takes likewise. */
     private static void changesNothing() {
         for (Rows.Kind kind : Rows.kinds()) {
-            TwinParity x = kind.make().get();
-            TwinParity untouched = kind.make().get();
-            for (int i = 0; i < 100; i++) {
-                x.word(i % 18 - 1, i % 10 - 1);
+            for (int unit = 0; unit < kind.k() + 2; unit++) {
+                changesNothing(kind, unit);
             }
-            for (int i = 0; i < (kind.k() + 2) * 20; i++) {
-                int at = i % 20 * 10 / 3;
-                String call = kind.name() + ": many calls of word, then get(" + i / 20 + ", " + at + ")";
-                due.is(call, x.get(i / 20, at), untouched.get(i / 20, at));
-            }
-            due.is(kind.name() + ": many calls of word, then mend()", x.mend(), untouched.mend());
         }
+    }
+
+    private static void changesNothing(Rows.Kind kind, int unit) {
+        TwinParity x = kind.make().get();
+        TwinParity untouched = kind.make().get();
+        for (int i = 0; i < 180; i++) {
+            x.word(i % 18 - 1, i / 18 - 1);
+        }
+        for (int at = 0; at < 64; at++) {
+            String call = kind.name() + ": many calls of word, then get(" + unit + ", " + at + ")";
+            due.is(call, x.get(unit, at), untouched.get(unit, at));
+        }
+        due.is(kind.name() + ": many calls of word, then mend()", x.mend(), untouched.mend());
     }
 
     private static void noUnit() {
